@@ -1343,19 +1343,18 @@ public final class TruthCord {
             if (hasBit(told, f)) {
                 return oldValue(f);
             }
-            if (valley.about[f] == who || othersKnow(who, f)) {
+            if (valley.about[f] == who || hasBit(knownToOthers(who), f)) {
                 return valley.lengthOf[f];
             }
             return valley.lengthOf[f] * valley.settings[SET_SECRET] / 10;
         }
 
-        private boolean othersKnow(int who, int f) {
+        private int knownToOthers(int who) {
+            int all = 0;
             for (int i = 0; i < valley.people; i++) {
-                if (i != who && hasBit(known[i], f)) {
-                    return true;
-                }
+                all |= i != who ? known[i] : 0;
             }
-            return false;
+            return all;
         }
 
         int knownToAll() {
