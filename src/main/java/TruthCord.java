@@ -81,6 +81,11 @@ public final class TruthCord {
     private static final int SUM_HURT = 3;
     private static final int SUM_COINS = 4;
 
+    private static final int ALL_OWED = 0;
+    private static final int ALL_OPEN = 1;
+    private static final int ALL_LATE = 2;
+    private static final int ALL_FOUND = 3;
+
     /** Above every sum that is compared with it. */
     private static final int UNREACHED = 1 << 30;
 
@@ -261,10 +266,10 @@ public final class TruthCord {
 
     public int autumn(int what) {
         switch (what) {
-            case 0: return ledger.owedInAll();
-            case 1: return ledger.howManyOpen();
-            case 2: return ledger.howManyLate();
-            case 3: return ledger.howManyFound();
+            case ALL_OWED:
+            case ALL_OPEN:
+            case ALL_LATE:
+            case ALL_FOUND: return ledger.sumInAll(what);
             case 4: return ledger.hurtInAll();
             case 5: return ledger.howManyWrong();
             case 6: return book.lastDay;
@@ -533,6 +538,16 @@ public final class TruthCord {
         return (bits >> i & 1) != 0;
     }
 
+    /** Where a WORD's code stands among the first of these; NONE: it does not. */
+    private static int placeOf(int code, int[] codes, int many) {
+        for (int i = 0; i < many && i < codes.length; i++) {
+            if (codes[i] == code) {
+                return i;
+            }
+        }
+        return NONE;
+    }
+
     /** The bytes that were fed, 0 to 255 each. */
     private static final class Tape {
         final int[] bytes = new int[TAPE_BYTES];
@@ -666,16 +681,11 @@ public final class TruthCord {
 
         /** Which of the words that are no NAMES this TOKEN is; NONE: it is none of them. */
         int keyword() {
-            for (int i = 0; i < keywords.length && kind == WORD; i++) {
-                if (keywords[i] == value) {
-                    return i;
-                }
-            }
-            return NONE;
+            return kind == WORD ? placeOf(value, keywords, keywords.length) : NONE;
         }
 
         boolean isName() {
-            return kind == WORD && keyword() == NONE;
+            return kind == WORD && placeOf(value, keywords, keywords.length) == NONE;
         }
 
         boolean stepSign(char sign) {
@@ -697,32 +707,18 @@ public final class TruthCord {
             return value;
         }
 
-        /** The WHO whose NAME comes; NONE with a FAULT noted. */
-        int stepWho(Valley valley) {
+        /** Which of these the NAME that comes is; NONE with a FAULT noted. */
+        int stepName(int[] names, int many) {
             step();
             if (!isName()) {
                 refuse(FAULT_TOKEN);
                 return NONE;
             }
-            int who = valley.whoNamed(value);
-            if (who == NONE) {
+            int place = placeOf(value, names, many);
+            if (place == NONE) {
                 refuse(FAULT_NAME);
             }
-            return who;
-        }
-
-        /** The FACT whose NAME comes; NONE with a FAULT noted. */
-        int stepFact(Valley valley) {
-            step();
-            if (!isName()) {
-                refuse(FAULT_TOKEN);
-                return NONE;
-            }
-            int fact = valley.factNamed(value);
-            if (fact == NONE) {
-                refuse(FAULT_NAME);
-            }
-            return fact;
+            return place;
         }
     }
 
@@ -782,24 +778,6 @@ public final class TruthCord {
             return f >= 0 && f < facts;
         }
 
-        int whoNamed(int code) {
-            for (int i = 0; i < people; i++) {
-                if (whoNames[i] == code) {
-                    return i;
-                }
-            }
-            return NONE;
-        }
-
-        int factNamed(int code) {
-            for (int i = 0; i < facts; i++) {
-                if (factNames[i] == code) {
-                    return i;
-                }
-            }
-            return NONE;
-        }
-
         /** What one KNOWS who knows these: a round without gain is the last, so 'since' rounds are enough. */
         int follow(int known) {
             int all = known;
@@ -853,8 +831,9 @@ public final class TruthCord {
             if (!text.isName()) {
                 return text.refuse(FAULT_TOKEN);
             }
-            boolean told = whoNamed(text.value) != NONE || factNamed(text.value) != NONE;
-            return !told || text.refuse(FAULT_NAME);
+            boolean isWho = placeOf(text.value, whoNames, people) != NONE;
+            boolean isFact = placeOf(text.value, factNames, facts) != NONE;
+            return !isWho && !isFact || text.refuse(FAULT_NAME);
         }
 
         private boolean takeWho(Reader text) {
@@ -885,7 +864,7 @@ public final class TruthCord {
             if (hurt == NONE) {
                 return false;
             }
-            int who = text.stepWho(this);
+            int who = text.stepName(whoNames, people);
             if (who == NONE) {
                 return false;
             }
@@ -898,11 +877,11 @@ public final class TruthCord {
         }
 
         private boolean takeKnows(Reader text) {
-            int who = text.stepWho(this);
+            int who = text.stepName(whoNames, people);
             if (who == NONE) {
                 return false;
             }
-            int f = text.stepFact(this);
+            int f = text.stepName(factNames, facts);
             if (f == NONE) {
                 return false;
             }
@@ -920,7 +899,7 @@ public final class TruthCord {
             int needed = 0;
             int given = 0;
             for (int i = 0; i < 3; i++) {
-                int f = text.stepFact(this);
+                int f = text.stepName(factNames, facts);
                 if (f == NONE) {
                     return false;
                 }
@@ -940,11 +919,11 @@ public final class TruthCord {
         }
 
         private boolean takeAsks(Reader text) {
-            int who = text.stepWho(this);
+            int who = text.stepName(whoNames, people);
             if (who == NONE) {
                 return false;
             }
-            int f = text.stepFact(this);
+            int f = text.stepName(factNames, facts);
             if (f == NONE) {
                 return false;
             }
@@ -1071,7 +1050,7 @@ public final class TruthCord {
             if (!text.isName()) {
                 return text.refuse(FAULT_TOKEN);
             }
-            int one = valley.whoNamed(text.value);
+            int one = placeOf(text.value, valley.whoNames, valley.people);
             if (one == NONE) {
                 return text.refuse(FAULT_NAME);
             }
@@ -1099,14 +1078,14 @@ public final class TruthCord {
             if (word < LIES || word > SELLS) {
                 return text.refuse(FAULT_TOKEN);
             }
-            int another = text.stepWho(valley);
+            int another = text.stepName(valley.whoNames, valley.people);
             if (another == NONE) {
                 return false;
             }
             if (another == one) {
                 return text.refuse(FAULT_NAME);
             }
-            int f = text.stepFact(valley);
+            int f = text.stepName(valley.factNames, valley.facts);
             if (f == NONE) {
                 return false;
             }
@@ -1135,7 +1114,7 @@ public final class TruthCord {
                 if (text.keyword() != WITH) {
                     return text.refuse(FAULT_TOKEN);
                 }
-                int next = text.stepWho(valley);
+                int next = text.stepName(valley.whoNames, valley.people);
                 if (next == NONE) {
                     return false;
                 }
@@ -1428,33 +1407,20 @@ public final class TruthCord {
         }
 
         int owedInAll() {
-            int sum = 0;
-            for (int d = 0; d < many; d++) {
-                sum += open[d];
-            }
-            return sum;
+            return sumInAll(ALL_OWED);
         }
 
-        int howManyOpen() {
+        /** Of all DEBTS, as autumn() tells it. */
+        int sumInAll(int what) {
             int sum = 0;
             for (int d = 0; d < many; d++) {
-                sum += open[d] > 0 ? 1 : 0;
-            }
-            return sum;
-        }
-
-        int howManyLate() {
-            int sum = 0;
-            for (int d = 0; d < many; d++) {
-                sum += isLate(d) ? 1 : 0;
-            }
-            return sum;
-        }
-
-        int howManyFound() {
-            int sum = 0;
-            for (int d = 0; d < many; d++) {
-                sum += found[d];
+                switch (what) {
+                    case ALL_OWED: sum += open[d]; break;
+                    case ALL_OPEN: sum += open[d] > 0 ? 1 : 0; break;
+                    case ALL_LATE: sum += isLate(d) ? 1 : 0; break;
+                    case ALL_FOUND: sum += found[d]; break;
+                    default: break;
+                }
             }
             return sum;
         }
@@ -1882,7 +1848,7 @@ public final class TruthCord {
             int with = 0;
             int compared = 0;
             if (key == HAS) {
-                with = text.stepFact(valley);
+                with = text.stepName(valley.factNames, valley.facts);
                 if (with == NONE) {
                     return false;
                 }

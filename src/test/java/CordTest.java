@@ -74,7 +74,7 @@ final class CordTest {
         CHECK.due("30 near(the greatest int)", -1, near(x, Integer.MAX_VALUE, 1, 2, 2, 2));
         CHECK.due("30 unlike in the check", 0, near(x, 0, 0, 0, 0, 1));
         CHECK.due("30 unlike in the first place", 25, near(x, 1, 0, 0, 0, 1));
-        for (int n = 0; n < 625; n += 7) {
+        for (int n = 0; n < 625; n++) {
             int[] tape = {n / 125, n / 25 % 5, n / 5 % 5, n % 5};
             int seen = 0;
             for (int length = 0; length < 125; length++) {

@@ -53,6 +53,13 @@ final class FeastTest {
             CHECK.due("18 feastAt(" + k + ")", 4 + k, x.feastAt(k));
         }
         CHECK.due("18 no ninth", TruthCord.NONE, x.feastAt(8));
+        x = Check.with(valley.toString().replaceAll(" 9 \\d+ b", " 9 99 b"), Check.times("a lies b m;", 11));
+        CHECK.due("18 ahead of any feast()", 7, x.feastAt(7));
+        CHECK.due("17 the greatest HURT", 8 * 99, x.feast(1));
+        CHECK.due("17 of eight", 8, x.feast(0));
+        x = Check.with(valley.toString().replaceAll(" 9 \\d+ b", " 9 99 b"), "a lies b m;" + Check.times("a lies b n;", 3));
+        CHECK.due("17 of four", 4, x.feast(0));
+        CHECK.due("17 the greatest HURT of four", 4 * 99, x.feast(1));
     }
 
     private static void wrong(String valley) {

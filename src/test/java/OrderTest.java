@@ -45,6 +45,9 @@ final class OrderTest {
         ordered("the same twice: the latter is WRONG", x, new int[] {0, 2, 1, 0, 2, 1}, 10, 0, 1);
         ordered("what is FOUND grows", Check.with(VALLEY + "old 0;", "a lies b g;a lies b f;a sells c f 0;a sells c g 0;"),
             new int[] {0, 1, 0}, 26, 0);
+        // each can tell it only behind the next one's telling: the last of all 120 orders
+        ordered("the last order", Check.with("who a;who b;who c;who d;who e;who x;fact q 1 1 a;fact f 1 1 a;knows a f;", ""),
+            new int[] {4, 5, 1, 3, 4, 1, 2, 3, 1, 1, 2, 1, 0, 1, 1}, 0, 4, 3, 2, 1, 0);
         ordered("without a BOOK", Check.with(VALLEY, ""), new int[] {0, 1, 0}, 0, 0);
     }
 

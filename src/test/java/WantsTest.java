@@ -6,6 +6,7 @@ final class WantsTest {
     public static void main(String[] args) {
         needs();
         buys();
+        twelve();
         wrong();
         CHECK.finish();
     }
@@ -65,6 +66,34 @@ final class WantsTest {
         // g and h for nothing pay no more than g alone does
         buys("the fewest of like COINS", base + "asks b g 0;asks b h 0;", two, 0, 2);
         buys("not one that is not needed", base + "asks b h 0;asks c i 0;asks b g 5;", two + "a hides c f;", 0, 12);
+    }
+
+    /** As many DEBTS as there can be FACTS, and no FACT of his own is left that pays one. */
+    private static void twelve() {
+        StringBuilder facts = new StringBuilder("found 40;old 10;");
+        for (int i = 0; i < 12; i++) {
+            char name = (char) ('m' + i);
+            facts.append("fact ").append(name).append(i == 0 ? " 1" : " 99").append(" 0 a;");
+            facts.append(i == 0 ? "" : "asks b " + name + " 99;knows b " + name + ";");
+        }
+        facts.append("knows a m;");
+        TruthCord x = Check.with(PEOPLE + facts, Check.times("a hides c m;", 11));
+        CHECK.due("19 his own pays one", 10, x.needs(0, 0));
+        CHECK.due("19 the least set", 0b11111111110, x.needs(0, 1));
+        CHECK.due("20 ten for 99", 990, x.buys(0, 0));
+        CHECK.due("20 the least set", 0b11111111110, x.buys(0, 1));
+        Check.book(x, Check.times("a hides c m;", 12));
+        CHECK.due("19 twelve DEBTS", 11, x.needs(0, 0));
+        CHECK.due("19 all but his own", 0b111111111110, x.needs(0, 1));
+        CHECK.due("20 eleven for 99", 1089, x.buys(0, 0));
+        CHECK.due("20 all but his own", 0b111111111110, x.buys(0, 1));
+        Check.book(x, Check.times("a hides c m;", 12) + "a sells c m 0;");
+        CHECK.due("19 his own pays none: they are FOUND", TruthCord.NONE, x.needs(0, 0));
+        Check.book(x, Check.times("a hides c m;", 11) + "a sells c m 0;");
+        CHECK.due("19 the eleven others", 11, x.needs(0, 0));
+        Check.book(x, Check.times("a hides c m;", 13));
+        CHECK.due("19 thirteen DEBTS", TruthCord.NONE, x.needs(0, 0));
+        CHECK.due("20 thirteen DEBTS", TruthCord.NONE, x.buys(0, 1));
     }
 
     private static void wrong() {
