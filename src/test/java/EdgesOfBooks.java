@@ -219,9 +219,9 @@ final class EdgesOfBooks {
         edges.all("at its WORTH ahead of the telling: a secret of 13", new int[] {14, 0}, x.debt(0, 4), x.debt(1, 4));
 
         edges.about("Whom it is about is HURT.", 15, 16);
-        x = Check.with(THREE + "fact f 9 99 c;fact g 9 0 a;knows a f;knows a g;", "a tells b f;a tells c f;a tells b g;");
-        edges.all("each time it is told, also by being told it", new int[] {0, 0, 198}, x.came(0, 3), x.came(1, 3), x.came(2, 3));
-        edges.due("HURT in all", 198, x.autumn(4));
+        x = Check.with(THREE + "fact f 9 99 c;fact g 9 7 a;fact h 9 0 b;knows a f;knows a g;knows a h;", "a tells b f;a tells c f;a tells b g;a tells c h;");
+        edges.all("each time it is told, also by being told it", new int[] {7, 0, 198}, x.came(0, 3), x.came(1, 3), x.came(2, 3));
+        edges.due("HURT in all", 205, x.autumn(4));
     }
 
     private void sells() {
@@ -558,6 +558,10 @@ final class EdgesOfBooks {
         edges.due("eight within one another", 0, x.said());
         Check.sentence(x, "not not not not not not not late");
         edges.due("seven times not", 255, x.said());
+        Check.sentence(x, "late or (late or (late or owes=0))");
+        edges.due("the last of four within one another", 255, x.said());
+        Check.sentence(x, "owes=0 and (owes=0 and (owes=0 and late))");
+        edges.due("the last of four within one another", 0, x.said());
 
         edges.about("It is said of PEOPLE behind the BOOK.", 34);
         Check.sentence(x, "has m");

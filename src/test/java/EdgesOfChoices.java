@@ -54,6 +54,8 @@ final class EdgesOfChoices {
         feast("the greatest HURT", twelve("99"), Check.times("a lies b m;", 12), 8, 792, 0, 1, 2, 3, 4, 5, 6, 7);
         feast("paid ones are none of them", twelve("0"), Check.times("a lies b m;", 4) + "a tells c w;a tells c x;" + Check.times("a lies b m;", 7), 8, 0,
             0, 1, 2, 3, 4, 5, 6, 7);
+        feast("a paid one alone", twelve("1"), "a lies b m;a tells c x;", 0, 0);
+        feast("a paid one ahead of an open one", twelve("1"), "a lies b m;a tells c x;a lies b m;", 1, 1, 0);
         // the first eight can't be paid by anything: the ninth is not looked at
         feast("eight that are too dear", "who a;who b;fact f 99 0 b;fact g 1 0 b;knows a f;knows a g;old 0;found 40;",
             Check.times("a lies b f;", 8) + "a lies b g;a sells b f 0;", 0, 0, -1, -1, -1, -1, -1, -1, -1, -1);
@@ -139,6 +141,8 @@ final class EdgesOfChoices {
         needs("as many DEBTS as FACTS, and one more", base, Check.times("a hides b f;", 5), -1, -1);
         needs("a paid one is none", base, "a hides b f;a hides b f;a tells c f;", 1, 2);
         needs("all are paid", "fact f 10 0 a;fact g 20 0 a;knows a f;knows a g;", "a hides b f;a tells b g;", 0, 0);
+        needs("a paid one needs no FACT of its own", "fact f 10 0 a;fact g 20 0 a;fact j 5 0 a;knows a f;knows a j;", Check.times("a hides b j;", 3) + "a tells c f;",
+            0, 0);
         needs("another one's are none", base + "knows b f;", "a hides c f;b hides c f;", 0, 0);
         needs("the first FACT is told to him", "fact e 20 0 a;fact f 10 0 a;knows a f;", "a hides b f;a hides b f;", 1, 1);
         // the DEBTS come rising and falling; the greatest must have the greatest FACT
@@ -146,6 +150,8 @@ final class EdgesOfChoices {
             "a hides b f;a hides b g;a hides b h;a hides b h;", 1, 8);
         needs("one that pays the least suffices", "fact f 10 0 a;fact g 20 0 a;fact h 30 0 a;fact i 20 0 a;fact j 80 0 a;knows a f;knows a g;knows a h;",
             "a hides b h;a hides b f;a hides b g;a hides b f;", 1, 8);
+        needs("a lesser DEBT counts ahead of greater ones", "fact f 10 0 a;fact g 20 0 a;fact h 30 0 a;fact i 18 0 a;fact j 20 0 a;knows a f;knows a g;knows a h;",
+            "a sells c f 0;a hides b f;a hides b g;a hides b h;", 1, 16);
         StringBuilder all = new StringBuilder("old 10;");
         for (char f = 'm'; f < 'm' + 12; f++) {
             all.append("fact ").append(f).append(" 9 0 a;");

@@ -75,6 +75,9 @@ final class EdgesOfCords {
         edges.all("in the check and in the first place", new int[] {2, 37, 62}, near(-1, 1, 2, 2, 2), near(0, 1, 2, 2, 2), near(1, 1, 2, 2, 2));
         edges.all("in the second place", new int[] {1, 5, -1}, near(-1, 0, 0, 0, 2), near(0, 0, 0, 0, 2), near(1, 0, 0, 0, 2));
         edges.all("in the third place", new int[] {1, 1, -1}, near(-1, 0, 0, 0, 3), near(0, 0, 0, 0, 3), near(1, 0, 0, 0, 3));
+        edges.all("the least length", new int[] {2, 0, 25}, near(-1, 0, 0, 0, 1), near(0, 0, 0, 0, 1), near(1, 0, 0, 0, 1));
+        edges.all("the greatest length", new int[] {2, 99, 124}, near(-1, 4, 4, 4, 3), near(0, 4, 4, 4, 3), near(1, 4, 4, 4, 3));
+        edges.all("no length of 125", new int[] {0, -1}, near(-1, 4, 0, 0, 0), near(0, 4, 0, 0, 0));
         edges.all("4 and 0 KNOTS are not one apart", new int[] {0, -1}, near(-1, 0, 0, 0, 4), near(0, 0, 0, 0, 4));
         edges.all("nor are 0 and 4", new int[] {0, -1}, near(-1, 4, 4, 4, 0), near(0, 4, 4, 4, 0));
 
@@ -147,6 +150,9 @@ final class EdgesOfCords {
         edges.due("one that READS to another length", 1, x.slips(37, 1, 5178));
         edges.due("0000 becomes 1111, and READS to 31", 1, x.slips(0, 1, 5178));
         edges.due("0 at least: it READS to its own", 0, x.slips(0, 1, 905));
+        for (int many = 1; many < 60; many++) {
+            edges.due("slips(62, " + many + ", 7)", slipsBy(62, many, 7), x.slips(62, many, 7));
+        }
         for (int many : new int[] {1, 2, 999, 1000}) {
             for (int length : new int[] {0, 37, 62, 124}) {
                 edges.due("slips(" + length + ", " + many + ", 5178)", slipsBy(length, many, 5178), x.slips(length, many, 5178));

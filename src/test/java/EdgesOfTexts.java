@@ -217,6 +217,7 @@ final class EdgesOfTexts {
         // NAMES that are alike but for one sign, their length or their order are unlike ones
         edges.valleyTaken("who a;who aa;who aaa;who aaaaaa;who ab;who ba;who baaaaa;who q;", 8);
         edges.valleyTaken("who p;who aaaaab;who q;who zaaaaa;who zzzzzz;who zzzzz;who oz;who pj;", 8);
+        edges.valleyTaken("who baaaaa;who faaaaa;who jaaaaa;who naaaaa;who raaaaa;who vaaaaa;who zaaaaa;who abbbbb;", 8);
         edges.bookRefused("who aaaaaa;who b;fact f 1 0 b;", "baaaaa tells b f;", 3, 0);
         edges.bookRefused("who a;who b;fact f 1 0 b;", "aa tells b f;", 3, 0);
         edges.bookRefused("who ap;who b;fact f 1 0 b;", "q tells b f;", 3, 0);
@@ -254,6 +255,28 @@ final class EdgesOfTexts {
         edges.due("no ninth", -1, x.knows(8, 0));
         edges.due("the last WHO", 1, Check.book(x, "h tells a x;"));
         edges.all("its numbers", new int[] {3, 7, 0, 11}, x.line(0, 0), x.line(0, 1), x.line(0, 2), x.line(0, 3));
+        full();
+    }
+
+    /** 8 PEOPLE and 12 FACTS, of which the last counts wherever the first does. */
+    private void full() {
+        String valley = people(8) + facts(11) + "fact x 4 9 h;knows h x;knows g x;knows a w;asks g x 3;asks a w 5;old 10;secret 30;";
+        TruthCord x = Check.with(valley, "h lies a x with g;h lies a x;a hides b w;h lies b x;");
+        edges.all("what g, h and a OWE", new int[] {2, 6 + 4, 1}, x.came(6, 0), x.came(7, 0), x.came(0, 0));
+        edges.all("the WORTH of the last FACT", new int[] {4, 4, -1}, x.worth(6, 11), x.worth(7, 11), x.worth(0, 11));
+        edges.all("the FEAST", new int[] {2, 9, 11, -1, -1, 10, -1, -1}, x.feast(0), x.feast(1), x.feastAt(0), x.feastAt(1), x.feastAt(2), x.feastAt(3), x.feastAt(4), x.feastAt(5));
+        edges.all("what h NEEDS and BUYS", new int[] {-1, -1}, x.needs(7, 0), x.buys(7, 0));
+        edges.all("the last WHO can be told", new int[] {1 << 10, 1}, x.ripple(0, 7, 10, 0), x.ripple(0, 1, 10, 1));
+        edges.all("HURT in all", new int[] {0, 8}, x.autumn(4), Check.book(x, "g tells a x;a tells b x;b tells c x;c tells d x;h lies e x;h lies f x;day 9;h lies d x;"));
+        edges.all("the last WHO is HURT", new int[] {36, 36, 1}, x.autumn(4), x.came(7, 3), x.autumn(5));
+        edges.all("TERMS and SOURCE of the last ones", new int[] {20, 3, 0}, x.terms(7), x.source(3, 11), x.source(0, 11));
+        Check.book(x, "a hides c w;a hides c w;");
+        edges.all("a BUYS the last FACT of g", new int[] {3, 1 << 11}, x.buys(0, 0), x.buys(0, 1));
+        edges.all("a NEEDS one", new int[] {1, 1}, x.needs(0, 0), x.needs(0, 1));
+        Check.tape(x, 7, 0, 11, 0, 7, 10, 6, 5, 11, 0, 6, 10, 7, 4, 11);
+        edges.due("an ORDER of the last ones", 0, x.order());
+        Check.sentence(x, "has x");
+        edges.due("who has the last FACT", 192, x.said());
     }
 
     private void whichFault() {
@@ -468,6 +491,21 @@ final class EdgesOfTexts {
         edges.all("nothing of the old one", new int[] {1, 0, 0, 3}, y.count(3), y.debts(), y.autumn(6), y.line(0, 0));
         edges.due("an empty one", 0, Check.book(y, ""));
         edges.all("nothing of the old one", new int[] {0, 0, 0, -1}, y.count(3), y.debts(), y.autumn(4), y.wrong(0));
+        // DEBTS of a longer BOOK are in nothing that is asked of a shorter one
+        y = Check.with(VALLEY + "knows a f;knows a g;knows c h;moon 1;secret 10;found 40;", "a lies b f;a lies b f;a lies b f;a lies b f;day 9;");
+        Check.sentence(y, "late or debts > 0");
+        edges.due("a OWES four, LATE", 1, y.said());
+        edges.due("an empty one", 0, Check.book(y, ""));
+        edges.all("nothing is OWED", new int[] {-10000, 0, 0, 0, 0, 0}, y.terms(0), y.said(), y.needs(0, 0), y.buys(0, 0), y.feast(0), y.autumn(0));
+        edges.all("nothing is FOUND", new int[] {1, 0, 0}, y.ripple(0, 1, 0, 0), y.ripple(0, 1, 0, 1), y.ripple(0, 1, 0, 2));
+        edges.all("nothing is LED", new int[] {0, 0}, y.led(0, -1), y.led(1, -1));
+        Check.book(y, "c tells b h;day 9;");
+        edges.due("nobody is LATE", 0, y.said());
+        Check.book(y, "a lies b f;a sells b f 0;");
+        Check.book(y, "");
+        edges.all("nothing of what was FOUND is OWED", new int[] {0, 0}, y.needs(0, 0), y.buys(0, 0));
+        Check.book(y, "a lies b f;a lies b f;a tells c g;day 9;");
+        edges.all("one of two is paid, both are LATE but for that", new int[] {1, 2, 1}, y.autumn(1), y.debts(), y.autumn(2));
 
         edges.about("WHO 'sells' WHO FACT N (0 to 99 COINS)", 8, 10);
         edges.bookTaken(VALLEY, "a sells b f 0;a sells b f 99;", 2);
