@@ -122,6 +122,7 @@ final class Edges {
     }
 
     void finish() {
+        check.yes("answers behind " + about, answers > 0);
         about = "";
         for (int n = 1; n <= PROMISES; n++) {
             yes("promise " + n + " has a sentence", promised[n]);
